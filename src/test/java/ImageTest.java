@@ -61,6 +61,7 @@ public final class ImageTest {
         due.is("depths", x.count(3), 37);
         x.warm(0);
         due.is("pairs when cold", x.count(2), 4);
+        due.is("pairs of the first", Due.heapOf("b00010,9;b00020,9;").count(2), 1);
         int[] wrong = {-1, 4, Integer.MIN_VALUE, Integer.MAX_VALUE};
         for (int w : wrong) {
             due.is("count(" + w + ")", x.count(w), -1);

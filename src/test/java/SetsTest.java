@@ -43,12 +43,18 @@ public final class SetsTest {
         due.is("too wide for new ones", Due.heapOf("b19198,9;b19099,9;t1;t0;").throwsNew(), -4);
         BowlsWithin wide = Due.heapOf("b10095,9;b19199,9;");
         due.is("ninety-seven goes between", wide.throwsNew(), 1);
+        due.is("ninety-nine goes between", Due.heapOf("b10097,9;b19199,9;").throwsNew(), 1);
         BowlsWithin wider = Due.heapOf("b10098,9;b19199,9;");
         due.is("a hundred is none", wider.throwsNew(), -4);
         BowlsWithin nine = Due.heapOf(
             "b00090,9;b00080,9;b00070,9;b00060,9;b00050,9;b10040,9;b10130,9;b00020,9;b00010,9;");
         due.is("beyond the room", nine.throwsNew(), 1);
         due.is("nothing is thrown", nine.count(0), 9);
+        BowlsWithin shelved = new BowlsWithin();
+        shelved.keep(0, 1, 1, 0);
+        shelved.comes(0, 10, 9, 0);
+        shelved.comes(0, 14, 9, 1);
+        due.is("without a text", shelved.throwsNew(), 1);
     }
 
     private static void helps() {
@@ -74,6 +80,15 @@ public final class SetsTest {
         due.is("beyond the room", nine.helps(9, 1), 10);
         due.is("width", nine.helps(9, 0), 1);
         due.is("nothing came", nine.count(0), 9);
+        due.is("as wide as can be", Due.heapOf("b00097,9;").helps(10, 0), 99);
+        due.is("its figure is 0", Due.heapOf("b00097,9;").helps(8, 1), 2);
+        due.is("its figure is 0: width", Due.heapOf("b20030,9;").helps(8, 1), 1);
+        BowlsWithin down = Due.heapOf("b00030,9;b00020,9;b00010,9;");
+        due.is("as outermost", down.helps(10, 0), 32);
+        due.is("as outermost: many", down.helps(10, 1), 4);
+        BowlsWithin broad = Due.heapOf("b19199,9;b19195,9;b19191,9;");
+        due.is("of no help", broad.helps(99, 1), 3);
+        due.is("of no help: width", broad.helps(99, 0), 1);
         int[][] wrong = {{0, 0}, {100, 0}, {5, 2}, {5, -1}, {-1, 1}};
         for (int[] w : wrong) {
             due.is("helps(" + w[0] + ", " + w[1] + ")", x.helps(w[0], w[1]), -1);

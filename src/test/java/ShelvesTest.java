@@ -41,8 +41,10 @@ public final class ShelvesTest {
         due.is("a hundred", x.row(0, 0, 100), 0);
         due.is("last is 0", x.element(0, 99), 0);
         x.put(0, 50, 9);
+        x.put(0, 0, 9);
         due.is("anew", x.row(0, 1, 51), 0);
         due.is("0 at first", x.element(0, 50), 0);
+        due.is("first is 0", x.element(0, 0), 0);
         due.is("no hundredth", x.put(0, 51, 1), -13);
         int[][] wrong = {{-1, 0, 5}, {8, 0, 5}, {0, -1, 5}, {0, 3, 5}, {0, 0, 101}, {8, 0, -1}, {0, 3, -1}};
         for (int[] w : wrong) {
@@ -140,6 +142,8 @@ public final class ShelvesTest {
         due.is("a bowl, nothing there", x.copy(3, 0, 4, 0, 1), -11);
         due.is("a bowl", x.copy(3, 0, 0, 0, 1), -12);
         due.is("a bowl there", x.copy(0, 0, 3, 0, 1), -12);
+        due.is("a bowl, bytes there", x.copy(3, 0, 2, 0, 1), -12);
+        due.is("bytes, a bowl there", x.copy(2, 0, 3, 0, 1), -12);
         due.is("two bowls", x.copy(3, 0, 3, 0, 1), -12);
         due.is("two sorts", x.copy(0, 0, 2, 0, 1), -12);
         due.is("two sorts, no place", x.copy(0, 9, 2, 0, 1), -12);

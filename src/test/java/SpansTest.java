@@ -74,6 +74,7 @@ public final class SpansTest {
         due.is("both", x.from(1, 4, 20, 9), 3);
         due.is("none of them", x.from(1, 4, 30, 9), 0);
         due.is("too deep", x.from(1, 0, 20, 10), 2);
+        due.is("too shallow", x.from(2, 0, 12, 8), 2);
         due.is("of none both", x.from(0, 0, 99, 99), 3);
         due.is("nothing came", x.count(0), 4);
         int[][] wrong = {
@@ -83,6 +84,10 @@ public final class SpansTest {
         for (int[] w : wrong) {
             due.is("from wrongly", x.from(w[0], w[1], w[2], w[3]), -1);
         }
+        BowlsWithin shelved = new BowlsWithin();
+        shelved.keep(0, 1, 0, 0);
+        shelved.comes(0, 10, 9, 0);
+        due.is("without a text", shelved.from(1, 0, 11, 9), 2);
         BowlsWithin nine = Due.heapOf(
             "b00090,9;b00080,9;b00070,9;b00060,9;b00050,9;b00040,9;b00030,9;b00020,9;b00010,9;");
         due.is("beyond the room", nine.from(511, 0, 1, 9), 3);
