@@ -12,6 +12,7 @@ public final class NestsTest {
         apart();
         carry();
         load();
+        oneHairDeep();
         noBowls();
         nineInARow();
         due.end();
@@ -134,6 +135,7 @@ public final class NestsTest {
         BowlsWithin y = Due.heapOf("b00010,10;b02020,8;b00030,8;");
         due.is("not in outer", y.apart(0), 2);
         due.is("which", y.apart(1), 5);
+        due.is("all", Due.heapOf("b00010,9;b00010,9;b00011,9;").apart(1), 7);
         BowlsWithin z = Due.heapOf("b00030,8;b00010,8;b00020,8;");
         due.is("least bits", z.apart(1), 1);
     }
@@ -159,6 +161,17 @@ public final class NestsTest {
         due.is("load(100)", x.load(100), -1);
         due.is("load(-1)", x.load(-1), -1);
         due.is("deepest alone", Due.heapOf("b00010,99;b00020,99;").load(99), 2);
+    }
+
+    private static void oneHairDeep() {
+        BowlsWithin x = Due.heapOf("b0001,1;");
+        due.is("shallowest nest", x.nest(1), 1);
+        due.is("shallowest height", x.height(1), 1);
+        due.is("shallowest longest", x.longest(1, 0), 1);
+        due.is("shallowest fewest", x.fewest(), 1);
+        due.is("shallowest carried", x.carry(), 1);
+        due.is("shallowest loaded", x.load(1), 1);
+        due.is("shallowest whole", x.whole(1), 1);
     }
 
     private static void noBowls() {

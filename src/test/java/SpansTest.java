@@ -76,6 +76,7 @@ public final class SpansTest {
         due.is("too deep", x.from(1, 0, 20, 10), 2);
         due.is("too shallow", x.from(2, 0, 12, 8), 2);
         due.is("of none both", x.from(0, 0, 99, 99), 3);
+        due.is("of none both, least", x.from(0, 0, 1, 1), 3);
         due.is("nothing came", x.count(0), 4);
         int[][] wrong = {
             {16, 0, 5, 5}, {0, 16, 5, 5}, {-1, 0, 5, 5}, {0, -1, 5, 5}, {1, 1, 5, 5}, {3, 6, 5, 5}, {1, 2, 0, 5},
