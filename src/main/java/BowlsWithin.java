@@ -801,8 +801,9 @@ public final class BowlsWithin {
         private boolean tellBowl(Shelf text, int start) {
             int newKind = text.digitAt(start + 1);
             int newTurn = text.digitAt(start + 3);
+            int comma = text.at(start + 5) == ',' ? start + 5 : start + 6;
             int newWidth = text.numberAt(start + 4);
-            int newDepth = text.numberAt(text.numberEnd(start + 4) + 1);
+            int newDepth = text.numberAt(comma + 1);
             if (newKind >= KINDS || newTurn > 1 || newWidth < 1 || newDepth < 1) {
                 return false;
             }
@@ -1143,7 +1144,7 @@ public final class BowlsWithin {
         }
 
         int at(int i) {
-            return hasPlace(i) ? elements[i] : NO_BYTE;
+            return i >= 0 && i < size ? elements[i] : NO_BYTE;
         }
 
         int digitAt(int i) {
@@ -1205,7 +1206,7 @@ public final class BowlsWithin {
         }
 
         /** Behind one digit or two; behind a 0 that stands first nothing more belongs to the number. */
-        int numberEnd(int i) {
+        private int numberEnd(int i) {
             int end = digitEnd(i);
             if (end < 0 || at(i) == '0') {
                 return end;
@@ -1213,9 +1214,9 @@ public final class BowlsWithin {
             return isDigit(end) ? end + 1 : end;
         }
 
+        /** In a well-formed text alone: there a sign that is no digit stands behind each number. */
         int numberAt(int i) {
-            int end = numberEnd(i);
-            return end - i == 2 ? digitAt(i) * 10 + digitAt(i + 1) : digitAt(i);
+            return isDigit(i + 1) ? digitAt(i) * 10 + digitAt(i + 1) : digitAt(i);
         }
     }
 }

@@ -32,6 +32,7 @@ public final class FaceTest {
         Constructor<?>[] made = face.getDeclaredConstructors();
         due.is("one constructor", made.length, 1);
         due.is("without arguments", made[0].getParameterCount(), 0);
+        due.is("public constructor", made[0].getModifiers(), Modifier.PUBLIC);
         methods(due, face);
         due.is("no field but private ones",
             Arrays.stream(face.getDeclaredFields()).filter(f -> !Modifier.isPrivate(f.getModifiers())).count(), 0);
@@ -50,7 +51,7 @@ public final class FaceTest {
                 names.add(m.getName());
                 boolean isElement = m.getName().equals("element");
                 due.is(m + " answers", m.getReturnType() == (isElement ? long.class : int.class) ? 1 : 0, 1);
-                due.is(m + " throws", m.getExceptionTypes().length, isElement ? 2 : 0);
+                due.is(m + " throws", thrown(m), isElement ? 12 : 0);
             }
         }
         due.is("methods " + got, got.equals(want) ? 1 : 0, 1);
@@ -64,6 +65,15 @@ public final class FaceTest {
                 due.is(m + " has a name of its own", names.contains(m.getName()) ? 1 : 0, 0);
             }
         }
+    }
+
+    /** 1 for an IllegalArgumentException, 2 for an IllegalStateException, 9 for another one, each a digit. */
+    private static int thrown(Method m) {
+        int told = 0;
+        for (Class<?> type : m.getExceptionTypes()) {
+            told = 10 * told + (type == IllegalArgumentException.class ? 1 : type == IllegalStateException.class ? 2 : 9);
+        }
+        return told;
     }
 
     private static void insides(Due due, Class<?> face) {
@@ -91,5 +101,7 @@ public final class FaceTest {
         }
         Matcher statics = Pattern.compile("static (?!final|class|int |boolean )").matcher(code);
         due.is("static fields are final", statics.find() ? 1 : 0, 0);
+        Matcher fields = Pattern.compile("static \\w+(\\[\\])? \\w+ *[=;,]").matcher(code);
+        due.is("static fields of any type are final", fields.find() ? 1 : 0, 0);
     }
 }
