@@ -35,7 +35,8 @@ final class EdgesOfTerms {
     }
 
     private void calls() {
-        e.says(Edges.WHAT_IT_IS, "An object is used for at most 512 calls after it has been made");
+        e.says(Edges.WHAT_IT_IS, "An object is used for at most 512 calls after it has been made; "
+            + "what later calls answer is free.");
         BowlsWithin x = Due.heapOf("b00010,9;b00012,9;");
         for (int call = 20; call < 511; call++) {
             e.is("call " + (call + 1), x.fewest(), 1);

@@ -1,9 +1,10 @@
 import java.io.IOException;
 
-/** Promise by promise, each sentence of the document that names a boundary. */
+/** The document from its first line: each sentence of it, at the boundaries that it names. */
 public final class EdgesTest {
     public static void main(String[] args) throws IOException {
         Edges e = new Edges();
+        new EdgesOfFirstLine(e).ask();
         new EdgesOfTerms(e).ask();
         new EdgesOfTexts(e).ask();
         new EdgesOfHeaps(e).ask();

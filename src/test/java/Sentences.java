@@ -69,7 +69,7 @@ final class Sentences {
         return found;
     }
 
-    /** What is left of the promises and terms when all that is named is taken away. */
+    /** What is left of the first lines, the terms and the promises when all that is named is taken away. */
     List<String> unnamed() {
         List<String> left = new ArrayList<>();
         for (int promise : words.keySet()) {
@@ -78,7 +78,7 @@ final class Sentences {
                 rest.append(named.get(promise)[i] ? '|' : words.get(promise).charAt(i));
             }
             for (String part : rest.toString().split("\\|+")) {
-                if (promise >= TERMS && part.matches(".*[A-Za-z0-9].*")) {
+                if (part.matches(".*[A-Za-z0-9].*")) {
                     left.add(promise + ": " + part.trim());
                 }
             }
